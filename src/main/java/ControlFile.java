@@ -12,7 +12,7 @@ public final class ControlFile {
 
   private static final int MODE_U = 0, MODE_S = 1, MODE_VU = 2, MODE_VS = 3;
   private static final int READ = 0, WRITE = 1, SET = 2, CLEAR = 3;
-  private static final long NEVER = Long.MAX_VALUE;
+  private static final long NEVER = 0x7fffffffffffffffL;
 
   // The S registers come first and the VS ones follow in the same order, so that
   // an S slot and the VS slot of its kind are always BANK apart.

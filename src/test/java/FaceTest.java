@@ -25,6 +25,7 @@ public final class FaceTest {
 
   public static void main(String[] args) {
     Answers answers = new Answers();
+    answers.sentence("The public face");
     Set<String> seen = visibleMembers();
     for (String member : FACE) {
       answers.due("is there: " + member, seen.contains(member), true);
@@ -32,9 +33,11 @@ public final class FaceTest {
     for (String member : seen) {
       answers.due("is of the document: " + member, FACE.contains(member), true);
     }
+    answers.sentence("public final class ControlFile");
     int modifiers = ControlFile.class.getModifiers();
     answers.due("final", Modifier.isFinal(modifiers), true);
     answers.due("public", Modifier.isPublic(modifiers), true);
+    answers.sentence("BAD = -1, ILLEGAL = 2, VIRTUAL = 22");
     answers.due("BAD", ControlFile.BAD, -1);
     answers.due("ILLEGAL", ControlFile.ILLEGAL, 2);
     answers.due("VIRTUAL", ControlFile.VIRTUAL, 22);

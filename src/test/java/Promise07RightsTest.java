@@ -1,104 +1,152 @@
-/** Promise 7, who has access: every number and some more, in every mode and kind. */
+/** Promise 7: each row of ACCESS, and that a refused access changes nothing. */
 public final class Promise07RightsTest {
   private static final int VTVM = Registers.bits(20);
+  private static final int OTHER_BITS = Registers.bits(6, 7, 8, 9, 21, 22);
+  private static final int[] WRITES = {Registers.WRITE, Registers.SET, Registers.CLEAR};
+  private static final int[] S_WITHOUT_ATP = {
+    Registers.STATUS, Registers.IE, Registers.TVEC, Registers.SCRATCH, Registers.EPC,
+    Registers.CAUSE, Registers.TVAL, Registers.IP
+  };
 
   public static void main(String[] args) {
     Answers answers = new Answers();
-    for (int mode = Registers.U; mode <= Registers.VS; mode++) {
-      for (int kind = Registers.READ; kind <= Registers.CLEAR; kind++) {
-        everyNumber(answers, mode, kind, 0);
-        everyNumber(answers, mode, kind, VTVM);
-        strangeNumbers(answers, mode, kind);
-      }
-      badKinds(answers, mode);
-    }
-    refusalsChangeNothing(answers);
-    otherTrapBitsDoNotGuardAtp(answers);
+    noneOfThese(answers);
+    writesOfTime(answers);
+    inS(answers);
+    inU(answers);
+    inVs(answers);
+    inVu(answers);
+    atpWithVtvm(answers);
+    vtvmGuardsNothingElse(answers);
+    othersAreVirtual(answers);
+    changingNothing(answers);
     answers.end();
   }
 
-  private static ControlFile inMode(int mode, int hstatus) {
-    ControlFile x = new ControlFile();
-    x.access(Registers.HSTATUS, Registers.WRITE, hstatus);
-    x.mode(mode);
-    return x;
-  }
-
-  private static void everyNumber(Answers answers, int mode, int kind, int hstatus) {
-    for (int number = 0; number < 0x1000; number++) {
-      answers.due("mode " + mode + " access(" + Registers.hex(number) + ", " + kind + ", 0)",
-          inMode(mode, hstatus).access(number, kind, 0), right(mode, number, kind, hstatus != 0));
-    }
-  }
-
-  private static int right(int mode, int number, int kind, boolean vtvm) {
-    boolean time = Registers.isIn(Registers.OF_TIME, number);
-    if (!Registers.exists(number) || (time && kind != Registers.READ)) {
-      return ControlFile.ILLEGAL;
-    }
-    if (time) {
-      return 0;
-    }
-    switch (mode) {
-      case Registers.S:
-        return 0;
-      case Registers.U:
-        return ControlFile.ILLEGAL;
-      case Registers.VS:
-        boolean free = Registers.isIn(Registers.OF_S, number)
-            && !(number == Registers.ATP && vtvm);
-        return free ? 0 : ControlFile.VIRTUAL;
-      default:
-        return ControlFile.VIRTUAL;
-    }
-  }
-
-  private static void strangeNumbers(Answers answers, int mode, int kind) {
-    int[] strange = {
-      -1, 0x1000, 0x1100, 0x1c01, 0x10000 | Registers.STATUS, Integer.MAX_VALUE,
-      Integer.MIN_VALUE, Integer.MIN_VALUE | Registers.SCRATCH, ~Registers.STATUS
-    };
-    for (int number : strange) {
-      answers.due("access(" + Registers.hex(number) + ", " + kind + ", 0)",
-          inMode(mode, 0).access(number, kind, 0), ControlFile.ILLEGAL);
-    }
-  }
-
-  private static void badKinds(Answers answers, int mode) {
-    ControlFile x = inMode(mode, VTVM);
-    for (int kind : new int[] {4, -1, 5, Integer.MAX_VALUE, Integer.MIN_VALUE}) {
-      for (int number : new int[] {Registers.STATUS, Registers.ATP, Registers.TIME, 5, -1}) {
-        answers.due("access(" + Registers.hex(number) + ", " + kind + ", -1)",
-            x.access(number, kind, -1), ControlFile.BAD);
-      }
-    }
-    answers.due("used() after bad kinds", x.used(), 1);
-  }
-
-  private static void refusalsChangeNothing(Answers answers) {
-    ControlFile x = inMode(Registers.S, VTVM);
-    x.time(9);
-    x.access(Registers.SCRATCH, Registers.WRITE, 77);
-    x.access(Registers.SCRATCH, Registers.READ, 0);
-    for (int mode : new int[] {Registers.U, Registers.VU, Registers.VS}) {
-      x.mode(mode);
-      for (int[] numbers : new int[][] {Registers.OF_VS, Registers.OF_H, Registers.OF_TIME}) {
-        for (int number : numbers) {
-          x.access(number, Registers.WRITE, -1);
+  private static void each(Answers answers, int mode, int hstatus, int[] numbers, int[] kinds,
+      int want) {
+    for (int number : numbers) {
+      for (int kind : kinds) {
+        for (int value : new int[] {0, -1}) {
+          answers.due("mode " + mode + " HSTATUS " + Registers.hex(hstatus) + " "
+              + Registers.call(number, kind, value),
+              State.inMode(mode, hstatus).access(number, kind, value), want);
         }
       }
-      x.access(Registers.ATP, Registers.WRITE, -1);
-      x.access(5, Registers.WRITE, -1);
-      answers.due("old() after refusals", x.old(), 77);
-      answers.due("used() after refusals", x.used(), 3);
-      answers.due("HSTATUS after refusals", x.control(Registers.HSTATUS), VTVM);
-      answers.due("time(9) after refusals", x.time(9), 9);
     }
   }
 
-  private static void otherTrapBitsDoNotGuardAtp(Answers answers) {
-    ControlFile x = inMode(Registers.VS, ~VTVM);
-    answers.due("ATP in VS without VTVM", x.access(Registers.ATP, Registers.WRITE, 3), 0);
-    answers.due("VS ATP", x.control(Registers.VSATP), 3);
+  private static void noneOfThese(Answers answers) {
+    answers.sentence("of a number that is none of these: ILLEGAL");
+    for (int mode : Registers.MODES) {
+      each(answers, mode, 0, Registers.STRANGE, Registers.KINDS, ControlFile.ILLEGAL);
+      each(answers, mode, VTVM, Registers.STRANGE, Registers.KINDS, ControlFile.ILLEGAL);
+      for (int number = 0; number < 0x1000; number++) {
+        if (!Registers.exists(number)) {
+          int[] one = {number};
+          each(answers, mode, 0, one, Registers.KINDS, ControlFile.ILLEGAL);
+        }
+      }
+    }
+  }
+
+  private static void writesOfTime(Answers answers) {
+    answers.sentence("or a write of 0xc01, 0xc81: ILLEGAL");
+    for (int mode : Registers.MODES) {
+      each(answers, mode, 0, Registers.OF_TIME, WRITES, ControlFile.ILLEGAL);
+      each(answers, mode, VTVM, Registers.OF_TIME, WRITES, ControlFile.ILLEGAL);
+    }
+  }
+
+  private static void inS(Answers answers) {
+    answers.sentence("In S all others are allowed");
+    each(answers, Registers.S, 0, Registers.WRITABLE, Registers.KINDS, 0);
+    each(answers, Registers.S, -1, Registers.WRITABLE, Registers.KINDS, 0);
+    int[] read = {Registers.READ};
+    each(answers, Registers.S, 0, Registers.OF_TIME, read, 0);
+  }
+
+  private static void inU(Answers answers) {
+    answers.sentence("in U only TIMEs, others are illegal");
+    int[] read = {Registers.READ};
+    for (int hstatus : new int[] {0, -1, Registers.bits(9)}) {
+      each(answers, Registers.U, hstatus, Registers.OF_TIME, read, 0);
+      each(answers, Registers.U, hstatus, Registers.WRITABLE, Registers.KINDS,
+          ControlFile.ILLEGAL);
+    }
+  }
+
+  private static void inVs(Answers answers) {
+    answers.sentence("in VS S ones and TIMEs");
+    int[] read = {Registers.READ};
+    for (int hstatus : new int[] {0, OTHER_BITS}) {
+      each(answers, Registers.VS, hstatus, Registers.OF_S, Registers.KINDS, 0);
+      each(answers, Registers.VS, hstatus, Registers.OF_TIME, read, 0);
+    }
+  }
+
+  private static void inVu(Answers answers) {
+    answers.sentence("in VU TIMEs");
+    int[] read = {Registers.READ};
+    each(answers, Registers.VU, 0, Registers.OF_TIME, read, 0);
+    each(answers, Registers.VU, -1, Registers.OF_TIME, read, 0);
+  }
+
+  private static void atpWithVtvm(Answers answers) {
+    answers.sentence("but ATP with VTVM");
+    int[] atp = {Registers.ATP};
+    each(answers, Registers.VS, VTVM, atp, Registers.KINDS, ControlFile.VIRTUAL);
+    each(answers, Registers.VS, -1, atp, Registers.KINDS, ControlFile.VIRTUAL);
+    each(answers, Registers.VS, OTHER_BITS, atp, Registers.KINDS, 0);
+    ControlFile x = State.inMode(Registers.VS, VTVM);
+    answers.due("ATP with VTVM", x.access(Registers.ATP, Registers.WRITE, 3),
+        ControlFile.VIRTUAL);
+    x.mode(Registers.S);
+    x.access(Registers.HSTATUS, Registers.CLEAR, VTVM);
+    x.mode(Registers.VS);
+    answers.due("ATP with VTVM cleared", x.access(Registers.ATP, Registers.WRITE, 5), 0);
+    answers.due("VS ATP", x.control(Registers.VSATP), 5);
+  }
+
+  private static void vtvmGuardsNothingElse(Answers answers) {
+    answers.sentence("in VS S ones (but ATP with VTVM) and TIMEs");
+    int[] read = {Registers.READ};
+    each(answers, Registers.VS, VTVM, S_WITHOUT_ATP, Registers.KINDS, 0);
+    each(answers, Registers.VS, VTVM, Registers.OF_TIME, read, 0);
+    int[] both = {Registers.ATP, Registers.VSATP};
+    each(answers, Registers.S, VTVM, both, Registers.KINDS, 0);
+    each(answers, Registers.U, VTVM, both, Registers.KINDS, ControlFile.ILLEGAL);
+  }
+
+  private static void othersAreVirtual(Answers answers) {
+    answers.sentence("others are VIRTUAL");
+    for (int hstatus : new int[] {0, -1, VTVM}) {
+      each(answers, Registers.VS, hstatus, Registers.OF_VS, Registers.KINDS, ControlFile.VIRTUAL);
+      each(answers, Registers.VS, hstatus, Registers.OF_H, Registers.KINDS, ControlFile.VIRTUAL);
+      each(answers, Registers.VU, hstatus, Registers.WRITABLE, Registers.KINDS,
+          ControlFile.VIRTUAL);
+    }
+  }
+
+  private static void changingNothing(Answers answers) {
+    answers.sentence("ILLEGAL or VIRTUAL, changing nothing");
+    for (int mode : Registers.MODES) {
+      for (int number : Registers.joined(Registers.ALL, Registers.STRANGE)) {
+        ControlFile empty = State.inMode(mode, VTVM);
+        ControlFile full = State.full(mode);
+        refusedChangesNothing(answers, empty, number);
+        refusedChangesNothing(answers, full, number);
+      }
+    }
+  }
+
+  private static void refusedChangesNothing(Answers answers, ControlFile x, int number) {
+    for (int kind : Registers.KINDS) {
+      String before = State.of(x);
+      int answer = x.access(number, kind, kind == Registers.WRITE ? 0x5a5a5a5a : -1);
+      if (answer != 0) {
+        answers.due("all after " + Registers.call(number, kind, -1), State.of(x), before);
+      }
+    }
   }
 }

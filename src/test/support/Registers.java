@@ -11,12 +11,24 @@ final class Registers {
       HTVAL = 0x643, HIP = 0x644, HVIP = 0x645, HTINST = 0x64a, HGATP = 0x680;
   static final int TIME = 0xc01, TIMEH = 0xc81;
 
+  static final int[] MODES = {U, S, VU, VS};
+  static final int[] KINDS = {READ, WRITE, SET, CLEAR};
   static final int[] OF_S = {STATUS, IE, TVEC, SCRATCH, EPC, CAUSE, TVAL, IP, ATP};
   static final int[] OF_VS = {
     VSSTATUS, VSIE, VSTVEC, VSSCRATCH, VSEPC, VSCAUSE, VSTVAL, VSIP, VSATP
   };
   static final int[] OF_H = {HSTATUS, HEDELEG, HIDELEG, HIE, HTVAL, HIP, HVIP, HTINST, HGATP};
   static final int[] OF_TIME = {TIME, TIMEH};
+  static final int[] ALL = joined(OF_S, OF_VS, OF_H, OF_TIME);
+
+  /** All that can be written, those last whose bits go where H ones let them. */
+  static final int[] WRITABLE = joined(OF_S, OF_H, OF_VS);
+
+  /** Numbers that are none: below, above, and ones whose lower bits look like a register's. */
+  static final int[] STRANGE = {
+    -1, 0, 1, 0xfff, 0x1000, 0x1100, 0x1c01, 0x10000 | STATUS, Integer.MAX_VALUE,
+    Integer.MIN_VALUE, Integer.MIN_VALUE | SCRATCH, STATUS - 0x1000, ~STATUS, -STATUS
+  };
 
   private Registers() {}
 
@@ -30,8 +42,7 @@ final class Registers {
   }
 
   static boolean exists(int number) {
-    return isIn(OF_S, number) || isIn(OF_VS, number) || isIn(OF_H, number)
-        || isIn(OF_TIME, number);
+    return isIn(ALL, number);
   }
 
   static int bits(int... places) {
@@ -44,5 +55,23 @@ final class Registers {
 
   static String hex(int number) {
     return "0x" + Integer.toHexString(number);
+  }
+
+  static String call(int number, int kind, int value) {
+    return "access(" + hex(number) + ", " + kind + ", " + value + ")";
+  }
+
+  static int[] joined(int[]... rows) {
+    int length = 0;
+    for (int[] row : rows) {
+      length += row.length;
+    }
+    int[] all = new int[length];
+    int at = 0;
+    for (int[] row : rows) {
+      System.arraycopy(row, 0, all, at, row.length);
+      at += row.length;
+    }
+    return all;
   }
 }
